@@ -1,0 +1,44 @@
+import java.io.IOException;
+import java.nio.file.Files;
+import java.nio.file.Path;
+import java.util.List;
+import java.util.regex.Matcher;
+import java.util.regex.Pattern;
+
+/** What of LANGUAGE.md can be seen in the text of the class. Runs from the project's folder. */
+public final class LanguageTest {
+    private static final String[] OUTSIDE = {
+        "^\\s*(package|import)\\b", "->", "::", "\\bfinally\\b", "\\bsynchronized\\b", "\\bassert\\b",
+        "\\bgetMessage\\b", "Exact\\b", "@", "\\bfloat\\b", "\\bdouble\\b", "\\bvar\\b", "\\bstatic\\s*\\{",
+        "\\bThread\\b", "\\bRandom\\b", "\\bcurrentTimeMillis\\b", "\\bnanoTime\\b", "\\bhashCode\\b",
+        "\\bSystem\\.(?!arraycopy)", "\\bMath\\.(?!max|min|abs)", "\\bInteger\\.(?!bitCount|MAX_VALUE|MIN_VALUE)",
+        "catch \\((?!IllegalArgumentException|IllegalStateException|UnsupportedOperationException)",
+        "throw new (?!IllegalArgumentException|IllegalStateException|UnsupportedOperationException)",
+    };
+    private static final int MOST_LINES_OF_METHOD = 60;
+    private static final int MOST_CLASSES = 12;
+
+    public static void main(String[] args) throws IOException {
+        List<String> lines = Files.readAllLines(Path.of("src/main/java/RattleAtFifty.java"));
+        int classes = 0;
+        int since = 0;
+        for (int i = 0; i < lines.size(); i++) {
+            String line = lines.get(i).replaceAll("//.*|/\\*\\*.*\\*/", "").replaceAll("\"[^\"]*\"", "");
+            for (String outside : OUTSIDE) {
+                Due.holds("line " + (i + 1) + " has " + outside, !Pattern.compile(outside).matcher(line).find());
+            }
+            for (int c = 0; c < lines.get(i).length(); c++) {
+                Due.holds("line " + (i + 1) + ", plain signs", lines.get(i).charAt(c) < 128);
+            }
+            classes += Pattern.compile("\\b(class|interface|enum|record) [A-Z]").matcher(line).find() ? 1 : 0;
+            Matcher head = Pattern.compile("^(    |        )(?! ).*\\) (throws .*)?\\{$").matcher(line);
+            since = head.find() ? i : since;
+            if (line.equals("    }") || line.equals("        }")) {
+                Due.holds("line " + (i + 1) + ", a short method", i - since < MOST_LINES_OF_METHOD
+                    || !lines.get(since).contains("("));
+            }
+        }
+        Due.holds(classes + " classes", classes <= MOST_CLASSES);
+        Due.ends();
+    }
+}

@@ -1,0 +1,246 @@
+import java.lang.reflect.InvocationTargetException;
+import java.lang.reflect.Method;
+import java.util.ArrayList;
+import java.util.Arrays;
+import java.util.List;
+import java.util.Random;
+
+/** All promises: drawn runs of calls, each answer against that of the model; the draws are always the same. */
+public final class ModelTest {
+    private static final int RUNS = 1500;
+    private static final int CALLS = 512;
+    private static final int[] ODD = {-1, -2, 8, 10, 99, 100, 101, 128, 10000, Integer.MIN_VALUE, Integer.MAX_VALUE};
+
+    private final Random random;
+    private final RattleAtFifty object = new RattleAtFifty();
+    private final Model model = new Model();
+    private final Method[] methods;
+    private final List<String> run = new ArrayList<>();
+    private int calls = 0;
+    private boolean wrong = false;
+
+    private ModelTest(int seed, Method[] methods) {
+        random = new Random(seed);
+        this.methods = methods;
+    }
+
+    public static void main(String[] args) throws Exception {
+        Method[] methods = RattleAtFifty.class.getDeclaredMethods();
+        List<Method> face = new ArrayList<>();
+        for (Method m : methods) {
+            if (java.lang.reflect.Modifier.isPublic(m.getModifiers())) {
+                face.add(m);
+            }
+        }
+        face.sort((a, b) -> a.getName().compareTo(b.getName()));
+        int right = 0;
+        for (int seed = 0; seed < RUNS; seed++) {
+            ModelTest test = new ModelTest(seed, face.toArray(new Method[0]));
+            test.drawRun();
+            right += test.wrong ? 0 : 1;
+        }
+        Due.is("runs as the model", right, RUNS);
+        Due.ends();
+    }
+
+    private void drawRun() throws Exception {
+        if (random.nextInt(4) > 0) {
+            text(goodText());
+        }
+        while (calls < CALLS - 110 && !wrong) {
+            int kind = random.nextInt(40);
+            if (kind == 0) {
+                text(random.nextBoolean() ? goodText() : spoiled(goodText()));
+            } else if (kind == 1) {
+                pairs();
+            } else if (kind == 2) {
+                told(random.nextInt(8), random.nextInt(9), 4);
+            } else if (kind == 3) {
+                told(random.nextInt(8), random.nextInt(9), 3);
+            } else if (kind == 4) {
+                judged();
+            } else {
+                drawCall();
+            }
+        }
+    }
+
+    private void drawCall() throws Exception {
+        Method m = methods[random.nextInt(methods.length)];
+        int[] a = new int[m.getParameterCount()];
+        for (int i = 0; i < a.length; i++) {
+            a[i] = random.nextInt(20) == 0 ? ODD[random.nextInt(ODD.length)] : usual(m.getName(), i);
+        }
+        call(m.getName(), a);
+    }
+
+    private int usual(String name, int i) {
+        switch (name) {
+            case "halves":
+            case "oneByOne":
+            case "worse":
+                return i == 0 ? random.nextInt(random.nextBoolean() ? 128 : 16) : random.nextInt(2);
+            case "heard":
+            case "silentFrom":
+                return i == 0 ? random.nextInt(4) : 25 + random.nextInt(35);
+            case "gone":
+                return i == 0 ? 1 + random.nextInt(9) : 2 + random.nextInt(49);
+            case "ear":
+            case "likeliest":
+                return i == 0 ? random.nextInt(8) : i == 1 ? random.nextInt(10) : random.nextInt(i == 2 ? 4 : 2);
+            case "mechanic":
+                return i == 3 ? random.nextInt(2) : i == 2 ? random.nextInt(100) : random.nextInt(10);
+            case "worth":
+                return random.nextInt(400);
+            case "winters":
+                return i == 0 ? 1 + random.nextInt(20) : i == 1 ? random.nextInt() : random.nextInt(2);
+            case "adds":
+                return i == 0 ? random.nextInt(8) : i == 1 ? random.nextInt(4) : 1 + random.nextInt(9);
+            case "set":
+                return i == 0 ? random.nextInt(4) : random.nextInt(random.nextBoolean() ? 6 : 60);
+            case "drives":
+                return random.nextInt(100);
+            case "row":
+                return i == 2 ? random.nextInt(12) - 1 : random.nextInt(i == 0 ? 8 : 3);
+            case "put":
+                return i == 2 ? random.nextInt() >> random.nextInt(31) : random.nextInt(8);
+            case "keep":
+                return i == 1 ? random.nextInt(8) == 0 ? 0 : 1 : random.nextInt(i == 3 ? 10 : 8);
+            case "copy":
+                return random.nextInt(i == 0 || i == 2 ? 8 : 5);
+            default:
+                return random.nextInt(i == 0 ? 8 : 3);
+        }
+    }
+
+    private String goodText() {
+        StringBuilder text = new StringBuilder();
+        int many = 1 + random.nextInt(12);
+        for (int i = 0; i < many && text.length() < 92; i++) {
+            switch (random.nextInt(10)) {
+                case 0: text.append("s").append(47 + random.nextInt(8)).append(";"); break;
+                case 1: text.append("c").append(random.nextInt(10)).append(";"); break;
+                case 2: text.append("l").append(random.nextInt(6)).append(";"); break;
+                case 3: text.append("r0").append(random.nextInt(10)).append(";"); break;
+                case 4: text.append("hwot".charAt(random.nextInt(4))).append(random.nextInt(3)).append(";"); break;
+                case 5: text.append("d").append(10 + random.nextInt(90)).append(";"); break;
+                default: text.append("p").append(random.nextInt(8)).append(random.nextInt(10))
+                    .append(random.nextInt(4)).append(1 + random.nextInt(9)).append(";");
+            }
+        }
+        return text.toString();
+    }
+
+    private String spoiled(String text) {
+        StringBuilder spoiled = new StringBuilder(text);
+        int at = random.nextInt(spoiled.length());
+        switch (random.nextInt(3)) {
+            case 0: spoiled.deleteCharAt(at); break;
+            case 1: spoiled.setLength(at); break;
+            default: spoiled.setCharAt(at, "pschwotdlr;0123456789 /:\u00ff".charAt(random.nextInt(25)));
+        }
+        return spoiled.toString();
+    }
+
+    private void text(String text) throws Exception {
+        int d = random.nextInt(8);
+        call("row", d, 0, text.length());
+        for (int i = 0; i < text.length(); i++) {
+            call("put", d, i, text.charAt(i));
+        }
+        call("road", d);
+        call("count", 0);
+    }
+
+    private void pairs() throws Exception {
+        int d = random.nextInt(8);
+        int n = 2 * random.nextInt(4);
+        call("row", d, random.nextInt(3), n);
+        for (int i = 0; i < n; i++) {
+            call("put", d, i, i % 2 == 0 ? 25 + random.nextInt(35) : random.nextInt(2));
+        }
+        call("which", d, 0);
+        call("which", d, 1);
+        call("two", d, random.nextInt(2));
+        call("tryNext", d);
+    }
+
+    private void told(int d, int n, int below) throws Exception {
+        int sort = random.nextInt(3);
+        call("row", d, sort, n);
+        for (int i = 0; i < n; i++) {
+            int least = sort == 0 ? -128 : sort == 1 ? -32768 : Integer.MIN_VALUE;
+            call("put", d, i, random.nextInt(9) == 0 && below == 4 ? least : random.nextInt(below));
+        }
+        call("ear", d, random.nextInt(10), random.nextInt(4), random.nextInt(2));
+        call("likeliest", d, random.nextInt(10));
+        call("quiet", d, random.nextInt(2));
+        call("forged", d);
+    }
+
+    /** ROWS that tell what is so, but for one place perhaps: for judge and for forged. */
+    private void judged() throws Exception {
+        int d = random.nextInt(8);
+        call("image");
+        int n = 1 + random.nextInt(5);
+        int[] heard = new int[n];
+        for (int i = 0; i < n; i++) {
+            heard[i] = (int) call("drives", 1);
+        }
+        call("restore");
+        call("row", d, 1, n);
+        for (int i = 0; i < n; i++) {
+            call("put", d, i, random.nextInt(6) == 0 ? -32768 : heard[i] + (random.nextInt(8) == 0 ? 1 : 0));
+        }
+        call("judge", d);
+        if (random.nextInt(4) == 0) {
+            call("row", d, 1, 56);
+            for (int i = 28; i < 56; i++) {
+                long at = call("heard", 0, i);
+                call("put", d, i, random.nextInt(40) == 0 ? -32768 : (int) at);
+            }
+            call("forged", d);
+            call("set", 2, random.nextInt(6));
+            call("forged", d);
+        }
+    }
+
+    private long call(String name, int... a) throws Exception {
+        long due = model.answer(name, a);
+        long got = answerOfObject(name, a);
+        run.add(name + Arrays.toString(a) + " -> " + got);
+        calls++;
+        if (got != due && !wrong) {
+            wrong = true;
+            System.out.println("the model answers " + due + " to the last of: " + run);
+        }
+        return due;
+    }
+
+    private long answerOfObject(String name, int[] a) throws Exception {
+        Object[] boxed = new Object[a.length];
+        for (int i = 0; i < a.length; i++) {
+            boxed[i] = a[i];
+        }
+        for (Method m : methods) {
+            if (m.getName().equals(name)) {
+                try {
+                    return ((Number) m.invoke(object, boxed)).longValue();
+                } catch (InvocationTargetException e) {
+                    return thrown(name, e.getCause());
+                }
+            }
+        }
+        throw new IllegalArgumentException(name);
+    }
+
+    private static long thrown(String name, Throwable cause) {
+        if (name.equals("element") && cause.getClass() == IllegalArgumentException.class) {
+            return Model.THROWS_ARGUMENT;
+        }
+        if (name.equals("element") && cause.getClass() == IllegalStateException.class) {
+            return Model.THROWS_STATE;
+        }
+        throw new IllegalStateException(name + " threw", cause);
+    }
+}
