@@ -113,7 +113,7 @@ public final class RattleAtFifty {
             case 2: return car.seat[p];
             case 3: return car.weight[p];
             case 4: return car.state[p];
-            case 5: return car.loud(p, car.setting[PACE]);
+            case 5: return car.loudNow(p);
             case 6: return car.seconds(p);
             case 7: return car.loosening(p);
             default: return NO_SUCH;
@@ -219,26 +219,14 @@ public final class RattleAtFifty {
         if (!isEither(what)) {
             return NO_SUCH;
         }
-        return what == 0 ? leastLoad() : greatestCold();
-    }
-
-    private int leastLoad() {
+        int setting = what == 0 ? LOAD : COLD;
+        int most = MOST_OF_SETTING[setting];
         trial.becomes(car);
-        for (int load = 0; load < LOADS; load++) {
-            trial.change(LOAD, load);
+        for (int i = 0; i <= most; i++) {
+            int v = what == 0 ? i : most - i;
+            trial.change(setting, v);
             if (trial.heardNow(0) == 0) {
-                return load;
-            }
-        }
-        return NONE;
-    }
-
-    private int greatestCold() {
-        trial.becomes(car);
-        for (int cold = COLDS - 1; cold >= 0; cold--) {
-            trial.change(COLD, cold);
-            if (trial.heardNow(0) == 0) {
-                return cold;
+                return v;
             }
         }
         return NONE;
@@ -614,22 +602,17 @@ public final class RattleAtFifty {
         if (refusal != 0) {
             return refusal;
         }
+        Shelf told = shelves[d];
         trial.becomes(car);
-        int latest = -1;
-        for (int load = 0; load < LOADS; load++) {
-            trial.change(LOAD, load);
-            int misfit = firstMisfit(shelves[d]);
-            if (misfit == NONE) {
-                return NONE;
-            }
-            latest = Math.max(latest, misfit);
-        }
-        return latest;
-    }
-
-    private int firstMisfit(Shelf told) {
+        int fitting = (1 << LOADS) - 1;
         for (int pace = 0; pace < told.size; pace++) {
-            if (!told.skips(pace) && told.elements[pace] != trial.heardAt(0, pace)) {
+            for (int load = 0; load < LOADS && !told.skips(pace); load++) {
+                trial.change(LOAD, load);
+                if (trial.heardAt(0, pace) != told.elements[pace]) {
+                    fitting &= ~(1 << load);
+                }
+            }
+            if (fitting == 0) {
                 return pace;
             }
         }
@@ -1054,7 +1037,7 @@ public final class RattleAtFifty {
                 return NOT_AS_IT_MUST;
             }
             state[p] = HELD;
-            return seconds(p);
+            return kindOf(p).secondsToHold(figure[p]);
         }
 
         int wedge(int p) {
@@ -1085,7 +1068,7 @@ public final class RattleAtFifty {
             figure[p] = 0;
             int next = p + 1 < parts ? p + 1 : 0;
             if (next != p) {
-                figure[next] = Math.min(GREATEST_FIGURE, figure[next] + loosening(next));
+                figure[next] = Math.min(GREATEST_FIGURE, figure[next] + kindOf(next).loosensBy());
             }
             return figure[next];
         }
@@ -1131,16 +1114,20 @@ public final class RattleAtFifty {
             }
         }
 
-        int loud(int p, int pace) {
-            return has(p) ? kinds[kind[p]].loudness(figure[p], pace, setting[COLD], setting[LOAD]) : 0;
+        private Part kindOf(int p) {
+            return kinds[has(p) ? kind[p] : 0];
+        }
+
+        int loudNow(int p) {
+            return has(p) ? kindOf(p).loudness(figure[p], setting[PACE], setting[COLD], setting[LOAD]) : 0;
         }
 
         int seconds(int p) {
-            return has(p) ? kinds[kind[p]].secondsToHold(figure[p]) : 0;
+            return has(p) ? kindOf(p).secondsToHold(figure[p]) : 0;
         }
 
         int loosening(int p) {
-            return has(p) ? kinds[kind[p]].loosensBy() : 0;
+            return kindOf(p).loosensBy();
         }
 
         /** By how much a PART SOUNDS at a SEAT, RADIO aside. */
@@ -1148,7 +1135,8 @@ public final class RattleAtFifty {
             if (!has(p) || state[p] != FREE) {
                 return 0;
             }
-            return Math.max(0, loud(p, pace) - Math.abs(there - seat[p]));
+            int loud = kindOf(p).loudness(figure[p], pace, setting[COLD], setting[LOAD]);
+            return Math.max(0, loud - Math.abs(there - seat[p]));
         }
 
         int soundOfAllBut(int set, int there, int pace) {
@@ -1166,7 +1154,7 @@ public final class RattleAtFifty {
         }
 
         int heardNow(int there) {
-            return heardAt(there, setting[PACE]);
+            return Math.max(0, soundOfAllBut(0, there, setting[PACE]) - setting[RADIO]);
         }
 
         int loudestAt(int there) {
@@ -1231,7 +1219,8 @@ public final class RattleAtFifty {
         int rattlingAt(int pace) {
             int set = 0;
             for (int p = 0; p < parts; p++) {
-                set |= loud(p, pace) > 0 ? 1 << p : 0;
+                int loud = kindOf(p).loudness(figure[p], pace, setting[COLD], setting[LOAD]);
+                set |= loud > 0 ? 1 << p : 0;
             }
             return set;
         }

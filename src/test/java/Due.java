@@ -53,7 +53,7 @@ final class Due {
         }
     }
 
-    /** All that count and part tell, in one number, to see whether something changed. */
+    /** All that count and part tell, in one text, to see whether something changed. */
     static String told(RattleAtFifty x) {
         StringBuilder all = new StringBuilder();
         for (int what = 0; what <= 7; what++) {

@@ -162,6 +162,12 @@ public final class HeardTest {
         Due.is("17: what", z.wanted(-1), -1);
         RattleAtFifty w = Due.car("p4901;");
         Due.is("17: not enough load", w.wanted(0), -4);
+        RattleAtFifty far = Due.car("p3331;p4331;");
+        Due.is("17: at seat 0", far.wanted(0), 0);
+        Due.is("17: at seat 0", far.wanted(1), 9);
+        far.keep(0, 1, 3, 4);
+        far.adds(0, 0, 1);
+        Due.is("17: all else as now", far.wanted(1), 4);
     }
 
     private static void promise18BestSeat() {

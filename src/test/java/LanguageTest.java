@@ -21,21 +21,17 @@ public final class LanguageTest {
     public static void main(String[] args) throws IOException {
         List<String> lines = Files.readAllLines(Path.of("src/main/java/RattleAtFifty.java"));
         int classes = 0;
-        int since = 0;
         for (int i = 0; i < lines.size(); i++) {
             String line = lines.get(i).replaceAll("//.*|/\\*\\*.*\\*/", "").replaceAll("\"[^\"]*\"", "");
             for (String outside : OUTSIDE) {
                 Due.holds("line " + (i + 1) + " has " + outside, !Pattern.compile(outside).matcher(line).find());
             }
-            for (int c = 0; c < lines.get(i).length(); c++) {
-                Due.holds("line " + (i + 1) + ", plain signs", lines.get(i).charAt(c) < 128);
-            }
+            Due.holds("line " + (i + 1) + ", plain signs", lines.get(i).chars().allMatch(c -> c < 128));
             classes += Pattern.compile("\\b(class|interface|enum|record) [A-Z]").matcher(line).find() ? 1 : 0;
             Matcher head = Pattern.compile("^(    |        )(?! ).*\\) (throws .*)?\\{$").matcher(line);
-            since = head.find() ? i : since;
-            if (line.equals("    }") || line.equals("        }")) {
-                Due.holds("line " + (i + 1) + ", a short method", i - since < MOST_LINES_OF_METHOD
-                    || !lines.get(since).contains("("));
+            if (head.find()) {
+                int end = i + lines.subList(i, lines.size()).indexOf(head.group(1) + "}");
+                Due.holds("line " + (i + 1) + ", a short method", end - i < MOST_LINES_OF_METHOD);
             }
         }
         Due.holds(classes + " classes", classes <= MOST_CLASSES);

@@ -22,6 +22,16 @@ public final class MendsTest {
         RattleAtFifty ever = Due.car("p0501;p0401;");
         Due.is("28: without end", ever.mends(0), -4);
         Due.is("28: figures behind 60", ever.mends(1), 1);
+        RattleAtFifty turns = Due.car("p0501;p1401;");
+        Due.is("28: without end", turns.mends(0), -4);
+        Due.is("28: figures behind 60, an even number", turns.mends(1), 1);
+        turns.screws(0);
+        Due.is("28: figures behind 60, from now", turns.mends(1), 3);
+        // At SEAT 0 the first is the loudest, at SEAT 1 the other one, which loosens nothing.
+        RattleAtFifty seats = Due.car("p0501;p6001;p0511;p6001;");
+        Due.is("28: two times", seats.mends(0), 2);
+        RattleAtFifty atOnce = Due.car("p0111;p0001;");
+        Due.is("28: at seat 0", atOnce.mends(0), 0);
         // The next sits far away: 5 at SEAT 0, then 1 at SEAT 3 is not heard.
         RattleAtFifty far = Due.car("p0501;p0031;");
         Due.is("28: loosened, but too far", far.mends(0), 1);

@@ -115,6 +115,7 @@ public final class RoadTest {
         Due.is("2: miles to the end", x.count(1), 9999);
         Due.is("2: too many miles", Due.follow(x, "s30;d01;"), -2004);
         Due.is("2: nothing came", x.count(2), 50);
+        Due.is("2: screwed, and no other one", Due.follow(new RattleAtFifty(), "p0501;t0;"), 2);
         Due.is("2: good to its ends", Due.follow(x, "s00;s99;c0;c9;l0;l5;r00;r40;p0001;p7939;o1;o1;h1;w1;"), 14);
     }
 
@@ -168,6 +169,9 @@ public final class RoadTest {
         x.set(1, 5);
         Due.is("3: loud though out", x.part(0, 5), 9);
         Due.is("3: state", x.part(0, 4), 3);
+        RattleAtFifty y = Due.car("p5101;p2101;");
+        Due.is("3: doubled of 1", y.part(0, 5), 5);
+        Due.is("3: tinny of 1", y.part(1, 5), 2);
         Due.is("3: no such part", x.part(4, 0), -1);
         Due.is("3: no such part", x.part(-1, 0), -1);
         Due.is("3: no such what", x.part(0, 8), -1);
@@ -179,6 +183,7 @@ public final class RoadTest {
         RattleAtFifty x = new RattleAtFifty();
         Due.is("4: nothing there", x.adds(0, 0, 1), -11);
         Due.is("4: no such seat, first", x.adds(0, 4, 1), -1);
+        Due.is("4: no such weight, first", x.adds(0, 0, 0), -1);
         x.keep(0, 1, 5, 7);
         Due.is("4: seat", x.adds(0, -1, 1), -1);
         Due.is("4: seat", x.adds(0, 4, 1), -1);

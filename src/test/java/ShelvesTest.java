@@ -50,6 +50,9 @@ public final class ShelvesTest {
         Due.is("39: nothing changes", x.element(0, 99), -5);
         Due.is("39: anew", x.row(0, 2, 100), 0);
         Due.is("39: 0 at first", x.element(0, 99), 0);
+        x.put(0, 0, 7);
+        x.row(0, 2, 1);
+        Due.is("39: 0 at first", x.element(0, 0), 0);
         Due.is("39: empty", x.row(0, 0, 0), 0);
         Due.is("39: no place", x.put(0, 0, 0), -13);
         x.keep(1, 1, 2, 3);
@@ -129,6 +132,9 @@ public final class ShelvesTest {
         Due.is("42: nothing there, ahead of a kind", x.copy(3, 0, 2, 0, 1), -11);
         Due.is("42: a kind", x.copy(3, 0, 1, 0, 1), -12);
         Due.is("42: a kind", x.copy(0, 0, 3, 0, 1), -12);
+        x.row(5, Due.BYTES, 4);
+        Due.is("42: a kind, and bytes", x.copy(3, 0, 5, 0, 0), -12);
+        Due.is("42: bytes, and a kind", x.copy(5, 0, 3, 0, 0), -12);
         x.row(4, Due.INTS, 4);
         Due.is("42: another sort, ahead of places", x.copy(0, 0, 4, 0, -1), -12);
     }
@@ -155,6 +161,11 @@ public final class ShelvesTest {
             Due.is("44: toss of kind " + k, x.toss(0), due[k]);
             x.keep(0, 1, k, 0);
             Due.is("44: with figure 0, kind " + k, x.toss(0), -15);
+        }
+        int[] dueOfOne = {1, 1, 101, 1, 1, 206, -15, 1};
+        for (int k = 0; k < dueOfOne.length; k++) {
+            x.keep(0, 1, k, 1);
+            Due.is("44: with figure 1, kind " + k, x.toss(0), dueOfOne[k]);
         }
         Due.is("44: shelf", x.toss(8), -1);
         Due.is("44: shelf", x.toss(-1), -1);

@@ -31,6 +31,9 @@ public final class ToldTest {
         Due.is("31: by radio", x.quiet(0, 0), 100);
         Due.fill(y, 0, Due.BYTES, 3);
         Due.is("31: others as now", y.quiet(0, 0), 30);
+        RattleAtFifty far = Due.car("p1331;");
+        Due.fill(far, 0, Due.BYTES, 0);
+        Due.is("31: at seat 0", far.quiet(0, 0), 100);
         promise31Refusals();
     }
 
@@ -49,12 +52,14 @@ public final class ToldTest {
         Due.is("31: no state", x.quiet(0, 0), -13);
         Due.fill(x, 0, Due.BYTES, 0, -1);
         Due.is("31: no state", x.quiet(0, 0), -13);
+        Due.fill(x, 0, Due.BYTES, 4, 0);
+        Due.is("31: no state", x.quiet(0, 0), -13);
         Due.fill(x, 0, Due.SHORTS, 0, -128);
         Due.is("31: the least of another sort", x.quiet(0, 0), -13);
         RattleAtFifty y = new RattleAtFifty();
         Due.fill(y, 0, Due.BYTES);
         Due.is("31: no parts", y.quiet(0, 0), 100);
-        // Heard at every PACE from 30 on only: there is no KIND that is heard at PACE 0.
+        // No KIND is LOUD at PACE 0, so that -4 is never due.
         Due.is("31: no parts", y.quiet(0, 1), 0);
     }
 
@@ -128,7 +133,6 @@ public final class ToldTest {
                 Due.is("34: heard, n " + n + ", z " + z, x.winters(n, z, 1), due[1]);
             }
         }
-        // By hand: z 0 is 12345, then 1406932606 becomes 21468 of 65536: 0 and 8 are the first PACE and COLD.
         Due.is("34: nothing changes", x.part(0, 4), 1);
         Due.is("34: pace stays", x.count(2), 50);
         Due.is("34: cold stays", x.count(3), 5);
@@ -137,6 +141,8 @@ public final class ToldTest {
         }
         Due.is("34: what", x.winters(1, 0, 2), -1);
         Due.is("34: what", x.winters(1, 0, -1), -1);
+        RattleAtFifty soft = Due.car("p1601;r05;");
+        Due.holds("34: each by 1", soft.winters(20, 7, 0) > 0 && soft.winters(20, 7, 0) == soft.winters(20, 7, 1));
         Due.is("34: no parts", new RattleAtFifty().winters(20, 7, 0), 0);
     }
 

@@ -42,6 +42,9 @@ public final class WhichTest {
         Due.is("19: none could", x.which(0, 0), 0);
         Due.is("19: none could", x.which(0, 1), 0);
         Due.is("19: no parts", whichOfNone(), 0);
+        RattleAtFifty y = Due.car("p0131;");
+        Due.fill(y, 0, Due.BYTES, 50, 1);
+        Due.is("19: loud by 1, wherever it sits", y.which(0, 0), 1);
     }
 
     private static int whichOfNone() {
@@ -56,13 +59,12 @@ public final class WhichTest {
         // LOOSE alone does that, so pairs with it are none.
         Due.is("20: none", x.two(0, 0), 0);
         Due.is("20: none", x.two(0, 1), -4);
-        // A HEAVY under LOAD 5 and FIGURE 5 is silent, a PART is not: both are of fifty only.
         RattleAtFifty y = Due.car("p6901;p0501;p6901;p1401;");
         Due.fill(y, 0, Due.BYTES);
         Due.is("20: nothing told, each alone does", y.two(0, 0), 0);
         Due.fill(y, 0, Due.BYTES, 50, 0);
         Due.is("20: dead ones alone do", y.two(0, 0), 0);
-        // No two of these kinds can do what neither does alone: LOOSE rattles wherever a PART does.
+        // Of the KINDS told no two do what neither does alone: LOOSE rattles wherever a PART does.
         Due.fill(y, 0, Due.BYTES, 48, 1, 60, 1, 20, 0);
         Due.is("20: loose alone does", y.two(0, 0), 0);
         Due.is("20: none", y.two(0, 1), -4);
