@@ -43,6 +43,10 @@ public final class RattleAtFifty {
     private static final int BYTES = 0;
     private static final int SHORTS = 1;
     private static final int INTS = 2;
+    private static final int LEAST_BYTE = -128;
+    private static final int LEAST_SHORT = -32768;
+    private static final int LEAST_INT = 0x80000000;
+    private static final int ALL_BUT_SIGN = 0x7fffffff;
 
     private static final int MOST_SILENT_DRIVES = 60;
     private static final int MOST_TOLD_SEATS = 8;
@@ -663,7 +667,7 @@ public final class RattleAtFifty {
     }
 
     private static int drawn(int seed) {
-        return (seed & Integer.MAX_VALUE) >> 16;
+        return (seed & ALL_BUT_SIGN) >> 16;
     }
 
     // ---- the image, what is told
@@ -1308,7 +1312,7 @@ public final class RattleAtFifty {
 
         /** Whether an element is the least number of the SORT, which tells nothing of its place. */
         boolean skips(int i) {
-            int least = sort == BYTES ? -128 : sort == SHORTS ? -32768 : Integer.MIN_VALUE;
+            int least = sort == BYTES ? LEAST_BYTE : sort == SHORTS ? LEAST_SHORT : LEAST_INT;
             return hasPlace(i) && elements[i] == least;
         }
 

@@ -11,7 +11,7 @@ public final class LanguageTest {
         "^\\s*(package|import)\\b", "->", "::", "\\bfinally\\b", "\\bsynchronized\\b", "\\bassert\\b",
         "\\bgetMessage\\b", "Exact\\b", "@", "\\bfloat\\b", "\\bdouble\\b", "\\bvar\\b", "\\bstatic\\s*\\{",
         "\\bThread\\b", "\\bRandom\\b", "\\bcurrentTimeMillis\\b", "\\bnanoTime\\b", "\\bhashCode\\b",
-        "\\bSystem\\.(?!arraycopy)", "\\bMath\\.(?!max|min|abs)", "\\bInteger\\.(?!bitCount|MAX_VALUE|MIN_VALUE)",
+        "\\bSystem\\.(?!arraycopy)", "\\bMath\\.(?!max|min|abs)", "\\bInteger\\.(?!bitCount)",
         "catch \\((?!IllegalArgumentException|IllegalStateException|UnsupportedOperationException)",
         "throw new (?!IllegalArgumentException|IllegalStateException|UnsupportedOperationException)",
     };
