@@ -9,9 +9,6 @@ import java.util.regex.Pattern;
  * from it by trying all there is. Calls are by name, so that runs can be drawn.
  */
 final class Model {
-    static final long THROWS_ARGUMENT = Long.MIN_VALUE;
-    static final long THROWS_STATE = Long.MIN_VALUE + 1;
-
     private static final class Piece {
         int kind;
         int figure;
@@ -920,10 +917,10 @@ final class Model {
 
     private long element(int d, int i) {
         if (bad(d)) {
-            return THROWS_ARGUMENT;
+            return Call.THROWS_ARGUMENT;
         }
         if (!isRow(shelf[d]) || i < 0 || i >= length(shelf[d])) {
-            return THROWS_STATE;
+            return Call.THROWS_STATE;
         }
         return at(shelf[d], i);
     }

@@ -1,4 +1,3 @@
-import java.lang.reflect.InvocationTargetException;
 import java.lang.reflect.Method;
 import java.util.ArrayList;
 import java.util.Arrays;
@@ -24,18 +23,11 @@ public final class ModelTest {
         this.methods = methods;
     }
 
-    public static void main(String[] args) throws Exception {
-        Method[] methods = RattleAtFifty.class.getDeclaredMethods();
-        List<Method> face = new ArrayList<>();
-        for (Method m : methods) {
-            if (java.lang.reflect.Modifier.isPublic(m.getModifiers())) {
-                face.add(m);
-            }
-        }
-        face.sort((a, b) -> a.getName().compareTo(b.getName()));
+    public static void main(String[] args) {
+        Method[] face = Call.face().values().toArray(new Method[0]);
         int right = 0;
         for (int seed = 0; seed < RUNS; seed++) {
-            ModelTest test = new ModelTest(seed, face.toArray(new Method[0]));
+            ModelTest test = new ModelTest(seed, face);
             test.drawRun();
             right += test.wrong ? 0 : 1;
         }
@@ -43,7 +35,7 @@ public final class ModelTest {
         Due.ends();
     }
 
-    private void drawRun() throws Exception {
+    private void drawRun() {
         if (random.nextInt(4) > 0) {
             text(goodText());
         }
@@ -65,7 +57,7 @@ public final class ModelTest {
         }
     }
 
-    private void drawCall() throws Exception {
+    private void drawCall() {
         Method m = methods[random.nextInt(methods.length)];
         int[] a = new int[m.getParameterCount()];
         for (int i = 0; i < a.length; i++) {
@@ -142,7 +134,7 @@ public final class ModelTest {
         return spoiled.toString();
     }
 
-    private void text(String text) throws Exception {
+    private void text(String text) {
         int d = random.nextInt(8);
         call("row", d, 0, text.length());
         for (int i = 0; i < text.length(); i++) {
@@ -152,7 +144,7 @@ public final class ModelTest {
         call("count", 0);
     }
 
-    private void pairs() throws Exception {
+    private void pairs() {
         int d = random.nextInt(8);
         int n = 2 * random.nextInt(4);
         call("row", d, random.nextInt(3), n);
@@ -165,7 +157,7 @@ public final class ModelTest {
         call("tryNext", d);
     }
 
-    private void told(int d, int n, int below) throws Exception {
+    private void told(int d, int n, int below) {
         int sort = random.nextInt(3);
         call("row", d, sort, n);
         for (int i = 0; i < n; i++) {
@@ -179,7 +171,7 @@ public final class ModelTest {
     }
 
     /** ROWS that tell what is so, but for one place perhaps: for judge and for forged. */
-    private void judged() throws Exception {
+    private void judged() {
         int d = random.nextInt(8);
         call("image");
         int n = 1 + random.nextInt(5);
@@ -205,9 +197,9 @@ public final class ModelTest {
         }
     }
 
-    private long call(String name, int... a) throws Exception {
+    private long call(String name, int... a) {
         long due = model.answer(name, a);
-        long got = answerOfObject(name, a);
+        long got = Call.on(object, name, a);
         run.add(name + Arrays.toString(a) + " -> " + got);
         calls++;
         if (got != due && !wrong) {
@@ -215,32 +207,5 @@ public final class ModelTest {
             System.out.println("the model answers " + due + " to the last of: " + run);
         }
         return due;
-    }
-
-    private long answerOfObject(String name, int[] a) throws Exception {
-        Object[] boxed = new Object[a.length];
-        for (int i = 0; i < a.length; i++) {
-            boxed[i] = a[i];
-        }
-        for (Method m : methods) {
-            if (m.getName().equals(name)) {
-                try {
-                    return ((Number) m.invoke(object, boxed)).longValue();
-                } catch (InvocationTargetException e) {
-                    return thrown(name, e.getCause());
-                }
-            }
-        }
-        throw new IllegalArgumentException(name);
-    }
-
-    private static long thrown(String name, Throwable cause) {
-        if (name.equals("element") && cause.getClass() == IllegalArgumentException.class) {
-            return Model.THROWS_ARGUMENT;
-        }
-        if (name.equals("element") && cause.getClass() == IllegalStateException.class) {
-            return Model.THROWS_STATE;
-        }
-        throw new IllegalStateException(name + " threw", cause);
     }
 }
