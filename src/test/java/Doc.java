@@ -15,6 +15,11 @@ final class Doc {
         Due.holds("the document says: " + words, TEXT.contains(words));
     }
 
+    /** The whole document, with one blank wherever there are blanks or ends of lines. */
+    static String text() {
+        return TEXT;
+    }
+
     private static String read() {
         try {
             return Files.readString(Path.of("../shared/DOC.md")).replaceAll("\\s+", " ");
