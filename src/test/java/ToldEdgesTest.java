@@ -73,8 +73,9 @@ public final class ToldEdgesTest {
         // These two are not the same behind 59 or 61 times as behind 60.
         mends(Scene.of("road p0501;p1501;"), -4, 1);
         mends(Scene.of("road p0501;p1501;t0;"), -4, 3);
-        // The longest way that came to an end of all that were drawn.
+        // The longest ways to an end that a search through many cars found.
         mends(Scene.of("road p5101;p2811;p1511;p1801;p1831;p1221;p7201;"), 31, 3);
+        mends(Scene.of("road l1;p0301;p5331;p5321;p5411;p5401;p7801;p2811;"), 38, 1);
     }
 
     private static void mechanic() {
