@@ -1,4 +1,7 @@
 import java.io.IOException;
+import java.lang.reflect.Field;
+import java.lang.reflect.Method;
+import java.lang.reflect.Modifier;
 import java.nio.file.Files;
 import java.nio.file.Path;
 import java.util.List;
@@ -17,6 +20,8 @@ public final class LanguageTest {
     };
     private static final int MOST_LINES_OF_METHOD = 60;
     private static final int MOST_CLASSES = 12;
+    private static final int MOST_FIELDS = 20;
+    private static final int MOST_PARAMETERS = 7;
 
     public static void main(String[] args) throws IOException {
         List<String> lines = Files.readAllLines(Path.of("src/main/java/RattleAtFifty.java"));
@@ -35,6 +40,23 @@ public final class LanguageTest {
             }
         }
         Due.holds(classes + " classes", classes <= MOST_CLASSES);
+        sizesOf(RattleAtFifty.class);
+        for (Class<?> inner : RattleAtFifty.class.getDeclaredClasses()) {
+            sizesOf(inner);
+        }
         Due.ends();
+    }
+
+    private static void sizesOf(Class<?> type) {
+        int fields = 0;
+        for (Field field : type.getDeclaredFields()) {
+            boolean constant = Modifier.isStatic(field.getModifiers());
+            Due.holds(field + ", a static one is final", !constant || Modifier.isFinal(field.getModifiers()));
+            fields += constant ? 0 : 1;
+        }
+        Due.holds(type + " has " + fields + " fields", fields <= MOST_FIELDS);
+        for (Method method : type.getDeclaredMethods()) {
+            Due.holds(method + ", its parameters", method.getParameterCount() <= MOST_PARAMETERS);
+        }
     }
 }

@@ -2,13 +2,20 @@ import java.lang.reflect.Method;
 import java.util.ArrayList;
 import java.util.Arrays;
 import java.util.List;
+import java.util.Map;
 import java.util.Random;
+import java.util.Set;
+import java.util.TreeMap;
+import java.util.TreeSet;
 
 /** All promises: drawn runs of calls, each answer against that of the model; the draws are always the same. */
 public final class ModelTest {
     private static final int RUNS = 1500;
     private static final int CALLS = 512;
     private static final int[] ODD = {-1, -2, 8, 10, 99, 100, 101, 128, 10000, Integer.MIN_VALUE, Integer.MAX_VALUE};
+
+    /** The REFUSALS met, by calls; elements may be below 0, so they are none. */
+    private static final Map<String, Set<Long>> MET = new TreeMap<>();
 
     private final Random random;
     private final RattleAtFifty object = new RattleAtFifty();
@@ -32,7 +39,19 @@ public final class ModelTest {
             right += test.wrong ? 0 : 1;
         }
         Due.is("runs as the model", right, RUNS);
+        namedByReadme();
         Due.ends();
+    }
+
+    /** Each REFUSAL that a run met is one that README.md names for that call. */
+    private static void namedByReadme() {
+        for (String name : MET.keySet()) {
+            List<Long> named = Readme.refusals(Readme.calls().get(name));
+            for (long refusal : MET.get(name)) {
+                boolean fault = name.equals("road") && refusal <= -1000;
+                Due.holds(name + " answered " + refusal + ", README.md names " + named, fault || named.contains(refusal));
+            }
+        }
     }
 
     private void drawRun() {
@@ -202,6 +221,9 @@ public final class ModelTest {
         long got = Call.on(object, name, a);
         run.add(name + Arrays.toString(a) + " -> " + got);
         calls++;
+        if (got < 0 && !name.equals("element")) {
+            MET.computeIfAbsent(name, n -> new TreeSet<>()).add(got);
+        }
         if (got != due && !wrong) {
             wrong = true;
             System.out.println("the model answers " + due + " to the last of: " + run);
